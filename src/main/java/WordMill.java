@@ -109,7 +109,7 @@ public final class WordMill {
     private int pastFirst = 0;
     private int pastSize = 0;
     private final State[] slots = new State[SLOT_ROOM];
-    private final boolean[] held = new boolean[SLOT_ROOM];
+    private int held = 0;
     private final Ways ways = new Ways();
     private final Made madeWords = new Made();
     private final Sets allSets = new Sets();
@@ -130,7 +130,11 @@ public final class WordMill {
     // ---- words as numbers
 
     private static int sizeOf(long word) {
-        return (64 + LETTER_BITS - 1 - Long.numberOfLeadingZeros(word)) / LETTER_BITS;
+        int size = 0;
+        for (long rest = word; rest != 0 && size < MADE_ROOM; rest >>>= LETTER_BITS) {
+            size++;
+        }
+        return size;
     }
 
     private static int letterAt(long word, int i) {
@@ -210,7 +214,7 @@ public final class WordMill {
     private void beginAnew() {
         now.begin(told);
         forgetPast();
-        Arrays.fill(held, false);
+        held = 0;
         madeWords.forget();
         forgetFits();
     }
@@ -742,12 +746,12 @@ public final class WordMill {
             return false;
         }
         slots[slot].copy(now);
-        held[slot] = true;
+        held |= 1 << slot;
         return true;
     }
 
     public boolean restore(int slot) {
-        if (slot < 0 || slot >= SLOT_ROOM || !held[slot]) {
+        if (slot < 0 || slot >= SLOT_ROOM || (held >>> slot & 1) == 0) {
             return false;
         }
         now.copy(slots[slot]);
@@ -772,19 +776,11 @@ public final class WordMill {
             case 11: return now.sold;
             case 12: return tapeSize;
             case 13: return pastSize;
-            case 14: return countHeld();
+            case 14: return Integer.bitCount(held);
             case 15: return tonsInStock();
             case 16: return told.classes;
             default: return NONE;
         }
-    }
-
-    private int countHeld() {
-        int sum = 0;
-        for (int slot = 0; slot < SLOT_ROOM; slot++) {
-            sum += held[slot] ? 1 : 0;
-        }
-        return sum;
     }
 
     private int tonsInStock() {
@@ -1718,22 +1714,22 @@ public final class WordMill {
         /* At most 5 * 8 * 43 words are made: the table stays less than half full. */
         private static final int TABLE = 4096;
 
-        private final boolean[] known = new boolean[MADE_ROOM + 1];
+        private int known = 0;
         private final int[] answers = new int[(MADE_ROOM + 1) * ANSWERS];
-        private long[] words = null;
-        private int[] firstWay = null;
+        private long[] words = new long[0];
+        private int[] firstWay = new int[0];
         private int unlike = 0;
         private int twice = 0;
         private int firstTwice = NOT_THERE;
 
         void forget() {
-            Arrays.fill(known, false);
+            known = 0;
         }
 
         int tellOf(Pieces pieces, int n, int what) {
-            if (!known[n]) {
+            if ((known >>> n & 1) == 0) {
                 reckon(pieces, n);
-                known[n] = true;
+                known |= 1 << n;
                 answers[n * ANSWERS] = unlike;
                 answers[n * ANSWERS + 1] = twice;
                 answers[n * ANSWERS + 2] = firstTwice;
@@ -1742,7 +1738,7 @@ public final class WordMill {
         }
 
         private void reckon(Pieces pieces, int n) {
-            if (words == null || firstWay == null) {
+            if (words.length < TABLE) {
                 words = new long[TABLE];
                 firstWay = new int[TABLE];
             }
@@ -1970,11 +1966,11 @@ public final class WordMill {
         private final int[] standBehind = new int[STONE_ROOM];
         private final long[] fresher = new long[PAIR_ROOM];
         private int size = 0;
-        private int[] follower = null;
-        private int[] waysTo = null;
-        private int[] firstTo = null;
-        private int[] swapsTo = null;
-        private long[] words = null;
+        private int[] follower = new int[FIRST_ROOM];
+        private int[] waysTo = new int[FIRST_ROOM];
+        private int[] firstTo = new int[FIRST_ROOM];
+        private int[] swapsTo = new int[FIRST_ROOM];
+        private long[] words = new long[FIRST_ROOM * PAIR_ROOM];
 
         static int stoneIn(int packed, int size, int i) {
             return packed >>> (STONE_BITS * (size - 1 - i)) & bitsBelow(STONE_BITS);
@@ -2067,13 +2063,7 @@ public final class WordMill {
         }
 
         private void makeRoom() {
-            if (words == null) {
-                follower = new int[FIRST_ROOM];
-                waysTo = new int[FIRST_ROOM];
-                firstTo = new int[FIRST_ROOM];
-                swapsTo = new int[FIRST_ROOM];
-                words = new long[FIRST_ROOM * PAIR_ROOM];
-            } else if (size >= follower.length) {
+            if (size >= follower.length) {
                 int room = 2 * follower.length;
                 follower = Arrays.copyOf(follower, room);
                 waysTo = Arrays.copyOf(waysTo, room);

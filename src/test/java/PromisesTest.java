@@ -132,6 +132,8 @@ public final class PromisesTest {
         sales();
         slots();
         counts();
+        staleness();
+        fullest();
         System.out.println(wrong == 0 ? asked + " answers are as due" : wrong + " of " + asked + " answers are not as due");
         if (wrong != 0) {
             System.exit(1);
@@ -293,6 +295,15 @@ public final class PromisesTest {
         fault(2, more + "+|(");
         fault(1, more + "+|+");
         fault(1, more + "+|12345");
+        String most = "brings=1" + times(193, "+1") + ";";
+        fault(2, most + "seed 1;land 1 a 1 b 1 c |1;");
+        fault(1, most + "seed 1;land 1 a 1 b 1 c |d;");
+        fault(2, "brings=1" + times(195, "+1") + ";land 1 a 1 b 1 |c 1;");
+        fault(2, "brings=1" + times(195, "+1") + ";brings=if 1<2 |then 3 else 4;");
+        fault(2, "brings=1" + times(196, "+1") + ";brings=if 1|<2 then 3 else 4;");
+        fault(2, "brings=1" + times(196, "+1") + ";seed 1;brings|=1;");
+        fault(2, "brings=1" + times(197, "+1") + ";brings=|1;");
+        fault(1, "brings=1" + times(197, "+1") + ";brings=|<;");
         fault(2, times(10, "word a;") + "|word a; ;");
         fault(1, "word a; |; " + times(11, "word a;"));
     }
@@ -751,6 +762,11 @@ public final class PromisesTest {
         seven.swap(2, 4);
         due("all the other way round", seven.swaps(2), 21);
         due("first one", seven.orderAt(2, 6), 6);
+        for (int i = 0; i < 7; i++) {
+            due("first of all", seven.orderAt(0, i), i);
+        }
+        WordMill one = mill("stone b to c; stone a to b; stone q to r; pair a c;");
+        dueAll("one pair", new int[] {one.orders(1), one.orderAt(1, 0), one.orderAt(1, 1), one.orderAt(1, 2), one.swaps(1)}, 3, 1, 0, 2, 1);
         WordMill many = mill("stone a to b; stone b to c; stone a to c; pair a c; pair b c; pair ab cc; pair ba cc;");
         dueAll("a to c by either", new int[] {many.orders(1), many.orders(4), many.orderAt(4, 0), many.orderAt(4, 2)}, 5, 5, 0, 2);
         due("no stones", mill("pair a b;").orders(1), 0);
@@ -787,6 +803,8 @@ public final class PromisesTest {
         dueAll("alike: least bits", new int[] {least.list(0), least.list(1), least.list(2)}, 3, 2, 0);
         WordMill told = mill("stone a to b; pair aaaaaaaa b; pair b b;");
         dueAll("letters of what is told to come out", new int[] {told.list(0), told.list(1), told.list(2)}, 2, 0, 1);
+        WordMill few = mill("stone a to b; stone c to d; stone e to f; pair acacac bdbdbd; pair eea ffa;");
+        dueAll("alike: fewest stones, more bits", new int[] {few.list(0), few.list(1), few.list(2)}, 10, 4, 1);
         WordMill two = mill("stone a to b; stone c to d; pair aca bdb; pair cac dbd; pair xa y;");
         dueAll("two stones, one pair beside", new int[] {two.list(0), two.list(1), two.list(2)}, 8, 3, 4);
         two.turn(0);
@@ -823,6 +841,8 @@ public final class PromisesTest {
         due("no set of the other tongue", other.parted(1), -2);
         WordMill apart = mill("stone a to b; stone b to c; pair b b c;");
         due("each its longest", apart.parted(1), 1);
+        due("no stone at all", mill("stone a to b; pair a a a;").parted(1), 0);
+        due("no stone in the other tongue", mill("stone a to b; stone q to r; pair a b a;").parted(1), 0);
     }
 
     private static void derived() {
@@ -840,6 +860,7 @@ public final class PromisesTest {
             mill.derived(0, 6, -2), mill.derived(0, 0, -2)}, NONE, NONE, NONE, NONE, NONE, NONE);
         mill.turn(5);
         due("on or not", mill.derived(0, 1, 0), 5);
+        due("stone 0", mill("stone a to b; word a; word b;").derived(0, 1, 0), 0);
         WordMill now = mill("stone a to b; word a; word b;");
         now.centuries(1);
         due("as they are", now.derived(0, 1, NONE), 0);
@@ -937,6 +958,13 @@ public final class PromisesTest {
         mill.grind(0);
         dueAll("a ground one does not fall together", new int[] {mill.lives(0), mill.lives(1), mill.left(4), mill.future(0, 4, 9),
             mill.future(0, 4, 0)}, -2, -2, 6, 1, 1);
+        WordMill far = mill("stone a to b; stone b to a; stone b to c; stone c to a; stone c to d; stone d to a; stone d to none; word a;"
+            + "seed 53;");
+        dueAll("not by 300", new int[] {far.lives(0), far.left(300)}, -2, 1);
+        far.centuries(24);
+        dueAll("by 301", new int[] {far.lives(0), far.left(300)}, -2, 1);
+        far.centuries(1);
+        dueAll("by 300", new int[] {far.lives(0), far.left(300), far.left(299), far.future(0, 300, 9)}, 300, 0, 1, 2);
         WordMill dead = mill("word a; word a;");
         dueAll("by the next century", new int[] {dead.lives(1), dead.left(1), dead.left(0)}, 1, 1, 3);
         dead.centuries(1);
@@ -992,6 +1020,136 @@ public final class PromisesTest {
         due("count(14)", mill.count(14), 2);
         due("place stays", mill.place(), NONE);
         due("a new object", new WordMill().hold(0), true);
+    }
+
+    /** What would be is asked again behind each thing that changes it. */
+    private static void staleness() {
+        promise = "promises 22 to 28 behind things done";
+        WordMill mill = mill("stone a to b; stone b to c; pair aaaa cccc cccc; pair bbbb cccc; seed 1;");
+        dueAll("told", answers(mill), 1, 0, 0, 1, 3, 2, -2, 6);
+        mill.swap(0, 1);
+        dueAll("swapped", answers(mill), 1, 0, 1, 0, -2, -2, -2, 8);
+        mill.undo();
+        dueAll("undone", answers(mill), 1, 0, 0, 1, 3, 2, -2, 6);
+        mill.turn(0);
+        dueAll("turned", answers(mill), 0, -2, -2, 1, 3, 2, 0, 6);
+        mill.hold(0);
+        mill.turn(0);
+        mill.swap(0, 1);
+        dueAll("turned back and swapped", answers(mill), 1, 0, 1, 0, -2, -2, -2, 8);
+        mill.restore(0);
+        dueAll("restored", answers(mill), 0, -2, -2, 1, 3, 2, 0, 6);
+        feed(mill, "stone a to c; pair a c; pair b b;");
+        mill.read();
+        dueAll("another text", answers(mill), 1, 0, 0, 1, 1, 1, -2, 2);
+        promise = "terms: a text in place of the one ahead";
+        WordMill again = mill("root a 1; root b 2; ending b 1; head c 1; land 9 a 1 b 2; word ab; seed 77; class ab c; brings = 7;");
+        due("made", again.made(2, 0), 4);
+        feed(again, "root q 1; root b 1; word q; land 3 b 1; land 4 q 1;");
+        due("read", again.read(), 0);
+        dueAll("counts", new int[] {again.count(0), again.count(2), again.count(3), again.count(4), again.count(6), again.count(16)},
+            1, 2, 0, 0, 2, 0);
+        dueAll("made", new int[] {again.made(1, 0), again.made(1, 1), again.made(2, 0)}, 2, 0, 0);
+        dueAll("wants", new int[] {again.lacks(0, 0), again.lacks(0, 1), again.grind(0), again.sell(1) ? 1 : 0, again.count(8)}, 1, 1, 1, 1, 5);
+        feed(again, "stone a to b; stone c to d; stone e to f; word ace;");
+        again.read();
+        again.centuries(1);
+        due("seed 0 again", wordCode(again, 0), code("acf"));
+        again.centuries(1);
+        due("seed 0 again", wordCode(again, 0), code("bcf"));
+        due("no pieces left", again.made(1, 0), 0);
+    }
+
+    private static int[] answers(WordMill mill) {
+        return new int[] {mill.orders(1), mill.orderAt(1, 0) < 0 ? mill.orderAt(1, 0) : 0, mill.swaps(1), mill.sets(1, false, 0),
+            mill.sets(1, false, 1), mill.parted(1), mill.bestTurn(0), mill.list(0)};
+    }
+
+    /** As much of all as there is room for, every call with every number near what it takes, compared with the plain mill. */
+    private static void fullest() {
+        promise = "the fullest text";
+        String text = "class ca ab; class cb bc; class cc cd; class cd de; class ce ae; class cf xy;"
+            + "stone a to b after ca; stone b to c before cb; stone c to none after edge; stone d to a before edge;"
+            + "stone e to d after cd before ce; stone a to e; stone b to none before cc;"
+            + "root a 1; root b 2; root c 3; root d 4; root ab 5; root bc 6; root cd 7; root abcdabcd 9;"
+            + "ending a 1; ending b 2; ending c 3; ending ab 4; ending bc 5; ending cd 6; head a 1; head b 2; head ab 3; head bc 4;"
+            + "word abcdabcd; word bcdae; word abab; word d; word ad; word cad; word abcd; word eeb; word bb; word c;"
+            + "pair abcdabcd e b; pair ade de a; pair bab ebe; pair dead dea ded; pair cab eb; pair a e e; pair d a a; pair e e d;"
+            + "land 100 a 1 b 1 c 1 d 1; land 50 ab 1 bc 1 cd 1 abcdabcd 1; land 7 a 1; land 0 b 1; land 999 e 1;".replace("e 1", "d 1")
+            + "brings = if tons < 3 then tons * 100 else if dust < 2 then left - turn else if 1 < heads then 5 else if ends < 1 then 9 else 7;"
+            + "seed 4711;";
+        WordMill mill = mill(text);
+        PlainMill plain = new PlainMill();
+        for (int at = 0; at < text.length(); at += 4) {
+            int four = 0;
+            for (int i = 0; i < 4; i++) {
+                four = four << 8 | (at + i < text.length() ? text.charAt(at + i) : ' ');
+            }
+            int b = at / 4 % 5;
+            FIVE[b] = four;
+            if (b == 4 || at + 4 >= text.length()) {
+                java.util.Arrays.fill(FIVE, b + 1, 5, 0x20202020);
+                plain.feed(FIVE[0], FIVE[1], FIVE[2], FIVE[3], FIVE[4]);
+            }
+        }
+        due("read", plain.read(), 0);
+        dueAll("full", new int[] {mill.count(0), mill.count(1), mill.count(2), mill.count(3), mill.count(4), mill.count(5), mill.count(6),
+            mill.count(16)}, 10, 7, 8, 6, 4, 8, 5, 6);
+        compare(mill, plain);
+        due("turn", mill.turn(6), plain.turn(6));
+        due("swap", mill.swap(0, 6), plain.swap(0, 6));
+        for (int w = 9; w >= 4; w--) {
+            due("grind", mill.grind(w), plain.grind(w));
+        }
+        due("sell", mill.sell(4), plain.sell(4));
+        due("sell", mill.sell(2), plain.sell(2));
+        due("centuries", mill.centuries(2), plain.centuries(2));
+        compare(mill, plain);
+    }
+
+    private static final int[] FIVE = new int[5];
+
+    private static void compare(WordMill mill, PlainMill plain) {
+        due("forged()", mill.forged(), plain.forged());
+        for (int a = -2; a <= 18; a++) {
+            due("count(" + a + ")", mill.count(a), plain.count(a));
+            due("left(" + a * 20 + ")", mill.left(a * 20), plain.left(a * 20));
+        }
+        for (int a = -2; a <= 11; a++) {
+            due("jams(" + a + ")", mill.jams(a), plain.jams(a));
+            due("order(" + a + ")", mill.order(a), plain.order(a));
+            due("isOn(" + a + ")", mill.isOn(a), plain.isOn(a));
+            due("orders(" + a + ")", mill.orders(a), plain.orders(a));
+            due("swaps(" + a + ")", mill.swaps(a), plain.swaps(a));
+            due("list(" + a + ")", mill.list(a), plain.list(a));
+            due("parted(" + a + ")", mill.parted(a), plain.parted(a));
+            due("bestTurn(" + a + ")", mill.bestTurn(a), plain.bestTurn(a));
+            due("sales(" + a + ")", mill.sales(a), plain.sales(a));
+            due("lives(" + a + ")", mill.lives(a), plain.lives(a));
+            for (int b = -2; b <= 11; b++) {
+                String both = "(" + a + ", " + b + ")";
+                due("word" + both, mill.word(a, b), plain.word(a, b));
+                due("run" + both, mill.run(a, b), plain.run(a, b));
+                due("way" + both, mill.way(a, b), plain.way(a, b));
+                due("stock" + both, mill.stock(a, b), plain.stock(a, b));
+                due("pair" + both, mill.pair(a, b % 2 == 0), plain.pair(a, b % 2 == 0));
+                due("next" + both, mill.next(a, b), plain.next(a, b));
+                due("apart" + both, mill.apart(a, b), plain.apart(a, b));
+                due("rhymes" + both, mill.rhymes(a, b), plain.rhymes(a, b));
+                due("mostUsed" + both, mill.mostUsed(a, b), plain.mostUsed(a, b));
+                due("lacks" + both, mill.lacks(a, b), plain.lacks(a, b));
+                due("made" + both, mill.made(a + 2, b), plain.made(a + 2, b));
+                due("sets" + both, mill.sets(a, b % 2 == 0, b / 2), plain.sets(a, b % 2 == 0, b / 2));
+                due("stage" + both, mill.stage(a, b, 8), plain.stage(a, b, 8));
+                due("future" + both, mill.future(a, 20 * b, b), plain.future(a, 20 * b, b));
+                due("derived" + both, mill.derived(a, b, NONE), plain.derived(a, b, NONE));
+                due("derived" + both, mill.derived(a, b, 0), plain.derived(a, b, 0));
+            }
+        }
+        for (int k = 0; k <= 8; k++) {
+            due("orderAt", mill.orderAt(k, k), plain.orderAt(k, k));
+            due("orderAt", mill.orderAt(0, k), plain.orderAt(0, k));
+        }
     }
 
     private static void counts() {
