@@ -182,6 +182,11 @@ public final class PromisesTest {
         fine("");
         fine(" \t\r\n ");
         fine("seed 0;");
+        fine(times(2000, " "));
+        fine(times(1993, " ") + "word a;");
+        fault(1, times(1994, "\n") + "word a|");
+        fault(1, times(1994, " ") + "seed 1|");
+        fault(1, times(1999, "\t") + "|w");
         fine("word\tabcdefgh\n;\r");
         fine("seed0012;root ab1;land7;");
         fault(1, "|;");
@@ -769,6 +774,7 @@ public final class PromisesTest {
         dueAll("one pair", new int[] {one.orders(1), one.orderAt(1, 0), one.orderAt(1, 1), one.orderAt(1, 2), one.swaps(1)}, 3, 1, 0, 2, 1);
         WordMill many = mill("stone a to b; stone b to c; stone a to c; pair a c; pair b c; pair ab cc; pair ba cc;");
         dueAll("a to c by either", new int[] {many.orders(1), many.orders(4), many.orderAt(4, 0), many.orderAt(4, 2)}, 5, 5, 0, 2);
+        due("all eight fit", mill("stone a to b;" + times(8, "pair a b;")).orders(8), 1);
         due("no stones", mill("pair a b;").orders(1), 0);
         due("no stones", mill("pair a a;").orders(1), 1);
     }
@@ -1044,7 +1050,7 @@ public final class PromisesTest {
         dueAll("another text", answers(mill), 1, 0, 0, 1, 1, 1, -2, 2);
         promise = "terms: a text in place of the one ahead";
         WordMill again = mill("root a 1; root b 2; ending b 1; head c 1; land 9 a 1 b 2; word ab; seed 77; class ab c; brings = 7;");
-        due("made", again.made(2, 0), 4);
+        dueAll("made", new int[] {again.made(2, 0), again.made(1, 0)}, 4, 2);
         feed(again, "root q 1; root b 1; word q; land 3 b 1; land 4 q 1;");
         due("read", again.read(), 0);
         dueAll("counts", new int[] {again.count(0), again.count(2), again.count(3), again.count(4), again.count(6), again.count(16)},
@@ -1058,6 +1064,9 @@ public final class PromisesTest {
         again.centuries(1);
         due("seed 0 again", wordCode(again, 0), code("bcf"));
         due("no pieces left", again.made(1, 0), 0);
+        feed(again, "root a 1; root b 1; land 5; land 6; word a;");
+        again.read();
+        dueAll("no wants left", new int[] {again.lacks(0, 0), again.lacks(0, 1), again.sales(0), again.grind(0)}, 0, 0, 11, 1);
     }
 
     private static int[] answers(WordMill mill) {
