@@ -284,8 +284,9 @@ public final class WordMill {
         if (!hasWord(word)) {
             return NONE;
         }
+        // A word of nothing stays so: no stone jams what had no letter ahead of it.
         long left = now.words[word];
-        for (int p = 0; p < told.stones.size; p++) {
+        for (int p = 0; p < told.stones.size && left != 0; p++) {
             int stone = now.orderOf[p];
             if (now.isTurnedOn(stone)) {
                 left = told.stones.take(stone, left);

@@ -490,7 +490,8 @@ final class PlainMill {
         }
         List<Integer> stones = onInOrder();
         for (int n = 1; n <= stones.size(); n++) {
-            if (takeAll(stones.subList(0, n), now.words.get(w)).isEmpty()) {
+            boolean ahead = takeAll(stones.subList(0, n - 1), now.words.get(w)).isEmpty();
+            if (!ahead && takeAll(stones.subList(0, n), now.words.get(w)).isEmpty()) {
                 return stones.get(n - 1);
             }
         }

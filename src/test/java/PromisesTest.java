@@ -437,6 +437,29 @@ public final class PromisesTest {
         mill.swap(0, 1);
         due("jams", mill.jams(3), -2);
         due("no stones", mill("word a;").jams(0), -2);
+        jamsOfNothing();
+    }
+
+    /** A word that a century left nothing of is jammed by none, whether stones are on or not. */
+    private static void jamsOfNothing() {
+        WordMill mill = mill("stone a to none; stone b to none; word aa; word ab; word b; seed 3;");
+        due("before", mill.jams(0), 0);
+        int first = 0;
+        while (mill.word(0, 8) != 0 && first < 20) {
+            mill.centuries(1);
+            first++;
+        }
+        dueAll("died so", new int[] {mill.word(0, 8), mill.word(0, 9), mill.jams(0), mill.run(0, 8), mill.stage(0, 2, 8)}, 0, 2, -2, 0, 0);
+        mill.swap(0, 1);
+        due("swapped", mill.jams(0), -2);
+        mill.turn(0);
+        mill.turn(1);
+        due("none on", mill.jams(0), -2);
+        for (int i = 0; i < 3; i++) {
+            mill.undo();
+        }
+        due("the century is undone", mill.undo(), true);
+        due("whole again", mill.jams(0), 0);
     }
 
     private static void ways() {
