@@ -635,7 +635,7 @@ public final class WordMill {
             return NONE;
         }
         for (int size = 0; size <= STEP_ROOM; size++) {
-            if (leadsTo(now.words[word], now.words[other], 0, size)) {
+            if (leadsTo(told.stones, steps, now.words[word], now.words[other], 0, size)) {
                 if (i == NONE) {
                     return size;
                 }
@@ -649,15 +649,15 @@ public final class WordMill {
      * Whether stones from the given step on, up to the size, take one word to the other. A stone that changes
      * nothing is passed over: without it fewer would do, and fewer have been tried.
      */
-    private boolean leadsTo(long word, long other, int step, int size) {
-        if (step >= size || step >= STEP_ROOM) {
+    private static boolean leadsTo(Stones stones, int[] steps, long word, long other, int step, int size) {
+        if (step >= size || step >= steps.length) {
             return word == other;
         }
-        for (int stone = 0; stone < told.stones.size; stone++) {
-            long left = told.stones.take(stone, word);
+        for (int stone = 0; stone < stones.size; stone++) {
+            long left = stones.take(stone, word);
             if (left != word) {
                 steps[step] = stone;
-                if (leadsTo(left, other, step + 1, size)) {
+                if (leadsTo(stones, steps, left, other, step + 1, size)) {
                     return true;
                 }
             }
@@ -1250,18 +1250,14 @@ public final class WordMill {
             }
         }
 
-        private long value() {
-            return script.valueAt(at);
-        }
-
         private long name() {
             at++;
-            return value();
+            return script.valueAt(at);
         }
 
         private int number(int least, int most) {
             at++;
-            int number = (int) value();
+            int number = (int) script.valueAt(at);
             if (number < least || number > most) {
                 fail(WRONG);
             }
@@ -1410,7 +1406,7 @@ public final class WordMill {
             at++;
             for (int n = 0; n < TOKEN_ROOM && kindBehind() != ';' && kindBehind() != END; n++) {
                 at++;
-                text.law.add(kindHere(), (int) value());
+                text.law.add(kindHere(), (int) script.valueAt(at));
             }
         }
     }

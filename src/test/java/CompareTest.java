@@ -5,11 +5,14 @@ import java.util.Random;
 /** Runs of random calls: WordMill must answer as PlainMill does. Arguments: none, or [source] [first seed] [runs]. */
 public final class CompareTest {
     private static final int CALLS = 150;
+    /** An object is used for at most 512 calls; a text takes at most 100 to be fed, and a few more. */
+    private static final int LAST_CALL = 512 - 110;
 
     private final Random random;
     private final WordMill mill = new WordMill();
     private final PlainMill plain = new PlainMill();
     private final StringBuilder log = new StringBuilder();
+    private int made = 0;
 
     private CompareTest(long seed) {
         random = new Random(seed);
@@ -22,7 +25,7 @@ public final class CompareTest {
         for (long seed = first; seed < first + runs; seed++) {
             CompareTest run = new CompareTest(seed);
             String wrong = run.go();
-            calls += CALLS;
+            calls += run.made;
             if (wrong != null) {
                 System.out.println("seed " + seed + ": " + wrong + "\n" + run.log);
                 System.exit(1);
@@ -32,7 +35,7 @@ public final class CompareTest {
     }
 
     private String go() {
-        for (int i = 0; i < CALLS; i++) {
+        for (int i = 0; i < CALLS && made < LAST_CALL; i++) {
             String wrong = i % 50 == 0 || random.nextInt(60) == 0 ? readText() : call();
             if (wrong != null) {
                 return wrong;
@@ -225,15 +228,8 @@ public final class CompareTest {
     }
 
     private static void feed(WordMill mill, PlainMill plain, String text) {
-        int[] five = new int[5];
         for (int at = 0; at < text.length(); at += 20) {
-            for (int i = 0; i < 5; i++) {
-                five[i] = 0;
-                for (int j = 0; j < 4; j++) {
-                    int b = at + 4 * i + j;
-                    five[i] = five[i] << 8 | (b < text.length() ? text.charAt(b) : ' ');
-                }
-            }
+            int[] five = Checks.five(text, at);
             if (mill != null) {
                 mill.feed(five[0], five[1], five[2], five[3], five[4]);
             }
@@ -253,6 +249,7 @@ public final class CompareTest {
         mill.back(mill.count(12));
         plain.back(plain.count(12));
         feed(mill, plain, text);
+        made += text.length() / 20 + 4;
         log.append("text: ").append(text).append("\n");
         String wrong = same("count(12)", mill.count(12), plain.count(12));
         wrong = wrong != null ? wrong : same("read()", mill.read(), plain.read());
@@ -262,6 +259,7 @@ public final class CompareTest {
     // ---- calls
 
     private String same(String call, int got, int due) {
+        made++;
         log.append(call).append(" = ").append(got).append("\n");
         return got == due ? null : call + " answered " + got + ", due is " + due;
     }

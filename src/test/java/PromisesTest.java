@@ -1,104 +1,9 @@
 /** Each promise of the document by its number: ordinary inputs, the edges that are named, wrong inputs. */
-public final class PromisesTest {
-    private static final int NONE = WordMill.NONE;
-    private static int wrong = 0;
-    private static int asked = 0;
-    private static String promise = "";
-
+public final class PromisesTest extends Checks {
     private static final String MILL = "class vowel aeiou; stone a to e before edge; stone t to d after vowel before vowel;"
         + "stone s to none after edge; root kat 3; root ke 2; root te 1; ending as 1; ending e 2; head s 4;"
         + "word skatas; word kata; word te; pair kata kade; pair skat kat;"
         + "land 50 kat 1 as 1; land 20 ke 2; brings = tons * 10 + ends - dust; seed 5;";
-
-    private static void due(String call, int got, int want) {
-        asked++;
-        if (got != want) {
-            wrong++;
-            System.out.println(promise + ": " + call + " answered " + got + ", due is " + want);
-        }
-    }
-
-    private static void due(String call, boolean got, boolean want) {
-        due(call, got ? 1 : 0, want ? 1 : 0);
-    }
-
-    /** Every call's answers, one behind the other. */
-    private static void dueAll(String call, int[] got, int... want) {
-        due(call + " how many", got.length, want.length);
-        for (int i = 0; i < Math.min(got.length, want.length); i++) {
-            due(call + " the " + i + "-th", got[i], want[i]);
-        }
-    }
-
-    private static void feed(WordMill mill, String text) {
-        int[] five = new int[5];
-        for (int at = 0; at < text.length(); at += 20) {
-            for (int i = 0; i < 20; i++) {
-                int b = at + i < text.length() ? text.charAt(at + i) & 255 : ' ';
-                five[i / 4] = five[i / 4] << 8 | b;
-            }
-            mill.feed(five[0], five[1], five[2], five[3], five[4]);
-        }
-        mill.back((20 - text.length() % 20) % 20);
-    }
-
-    private static WordMill mill(String text) {
-        WordMill mill = new WordMill();
-        feed(mill, text);
-        due("read() of " + text, mill.read(), 0);
-        return mill;
-    }
-
-    /** The text is told up to a bar, at which its fault stands. */
-    private static void fault(int number, String text) {
-        int bar = text.indexOf('|');
-        String bare = text.replace("|", "");
-        WordMill mill = mill("word z;");
-        feed(mill, bare);
-        due("read() of " + text, mill.read(), number);
-        due("place() of " + text, mill.place(), bar);
-        due("count(0) behind " + text, mill.count(0), 1);
-        due("count(12) behind " + text, mill.count(12), 0);
-    }
-
-    private static void fine(String text) {
-        due("place() of " + text, mill(text).place(), NONE);
-    }
-
-    private static String times(int n, String text) {
-        return text.repeat(n);
-    }
-
-    private static int code(String word) {
-        int code = 0;
-        for (int i = 0; i < word.length(); i++) {
-            code = code * 31 + word.charAt(i) - 'a' + 1;
-        }
-        return code;
-    }
-
-    private static int wordCode(WordMill mill, int word) {
-        int code = 0;
-        for (int i = 0; i < mill.word(word, 8); i++) {
-            code = code * 31 + mill.word(word, i);
-        }
-        return code;
-    }
-
-    private static int runCode(WordMill mill, int word) {
-        int code = 0;
-        for (int i = 0; i < mill.run(word, 8); i++) {
-            code = code * 31 + mill.run(word, i);
-        }
-        return code;
-    }
-
-    /** What one stone leaves of a word. */
-    private static void stone(String stones, String word, String left) {
-        WordMill mill = mill("class vow aeiou; class dup xx; " + stones + " word " + word + ";");
-        due("run of " + word + " by " + stones, runCode(mill, 0), code(left));
-        due("size of it", mill.run(0, 8), left.length());
-    }
 
     public static void main(String[] args) {
         tape();
@@ -134,21 +39,18 @@ public final class PromisesTest {
         counts();
         staleness();
         fullest();
-        System.out.println(wrong == 0 ? asked + " answers are as due" : wrong + " of " + asked + " answers are not as due");
-        if (wrong != 0) {
-            System.exit(1);
-        }
+        end();
     }
 
     private static void tape() {
-        promise = "promise 1";
+        says("promise 1");
         WordMill mill = new WordMill();
         for (int what = 0; what <= 16; what++) {
             due("count(" + what + ")", mill.count(what), 0);
         }
         due("NONE", NONE, -1);
         due("place()", mill.place(), NONE);
-        promise = "promise 2";
+        says("promise 2");
         for (int n = 1; n <= 100; n++) {
             due("feed", mill.feed(n, 0, 0, 0, -1), 20 * n);
         }
@@ -158,7 +60,7 @@ public final class PromisesTest {
         due("feed beyond", mill.feed(0, 0, 0, 0, 0), NONE);
         due("back(1)", mill.back(1), 1980);
         due("feed up to", mill.feed(0, 0, 0, 0, 0), 2000);
-        promise = "promise 3";
+        says("promise 3");
         due("back(-1)", mill.back(-1), NONE);
         due("back(2001)", mill.back(2001), NONE);
         due("back(least)", mill.back(Integer.MIN_VALUE), NONE);
@@ -166,11 +68,11 @@ public final class PromisesTest {
         due("back(0)", mill.back(0), 2000);
         due("back(2000)", mill.back(2000), 0);
         due("back(1)", mill.back(1), NONE);
-        promise = "promise 2";
+        says("promise 2");
         due("feed word abc;", mill.feed(0x776f7264, 0x20616263, 0x3b202020, 0x20202020, 0x20202020), 20);
         due("read", mill.read(), 0);
-        due("word(0)", wordCode(mill, 0), code("abc"));
-        promise = "promise 4";
+        due("word(0)", wordOf(mill, 0), "abc");
+        says("promise 4");
         due("the tape is empty", mill.count(12), 0);
         due("read of nothing", mill.read(), 0);
         due("place", mill.place(), NONE);
@@ -178,7 +80,7 @@ public final class PromisesTest {
     }
 
     private static void syntax() {
-        promise = "promises 4, 5: syntax";
+        says("promises 4, 5: syntax");
         fine("");
         fine(" \t\r\n ");
         fine("seed 0;");
@@ -261,7 +163,7 @@ public final class PromisesTest {
     }
 
     private static void room() {
-        promise = "promises 4, 5: room";
+        says("promises 4, 5: room");
         fine(times(6, "class aX bc;").replace("X", "") .replaceFirst("class a", "class ab").replaceFirst("class a ", "class ac ")
             .replaceFirst("class a ", "class ad ").replaceFirst("class a ", "class ae ").replaceFirst("class a ", "class af ")
             .replaceFirst("class a ", "class ag "));
@@ -314,7 +216,7 @@ public final class PromisesTest {
     }
 
     private static void meaning() {
-        promise = "promises 4, 5: twice, name, wrong";
+        says("promises 4, 5: twice, name, wrong");
         fault(3, "class ab c; class |ab d;");
         fault(3, "root ab 1; root |ab 1;");
         fault(3, "root ab 1; root |ab 0;");
@@ -351,7 +253,7 @@ public final class PromisesTest {
     }
 
     private static void textInPlace() {
-        promise = "terms: a text in place of the one ahead";
+        says("terms: a text in place of the one ahead");
         WordMill mill = mill(MILL);
         mill.turn(0);
         mill.swap(0, 2);
@@ -378,7 +280,7 @@ public final class PromisesTest {
     }
 
     private static void stones() {
-        promise = "promises 6, 7";
+        says("promises 6, 7");
         stone("stone a to b;", "aacaa", "bbcbb");
         stone("stone a to none;", "aacaa", "c");
         stone("stone a to none;", "aaaaaaaa", "");
@@ -405,16 +307,16 @@ public final class PromisesTest {
             19, 19, 0, 0, 6, 0, NONE, NONE, NONE, NONE);
         dueAll("run", new int[] {mill.run(0, 0), mill.run(0, 4), mill.run(0, 5), mill.run(0, 7), mill.run(0, 8), mill.run(0, 9),
             mill.run(0, -1), mill.run(3, 8), mill.run(-1, 8)}, 11, 19, 0, 0, 5, NONE, NONE, NONE, NONE);
-        due("run", runCode(mill, 0), code("kadas"));
-        due("run", runCode(mill, 1), code("kade"));
+        due("run", runOf(mill, 0), "kadas");
+        due("run", runOf(mill, 1), "kade");
         due("turn", mill.turn(1), true);
-        due("run", runCode(mill, 1), code("kate"));
-        due("word", wordCode(mill, 1), code("kata"));
+        due("run", runOf(mill, 1), "kate");
+        due("word", wordOf(mill, 1), "kata");
         due("word of eight", mill("word abcdefgh;").word(0, 7), 8);
     }
 
     private static void stages() {
-        promise = "promise 8";
+        says("promise 8");
         WordMill mill = mill("stone a to b; stone b to c; stone c to d; word a;");
         dueAll("stage", new int[] {mill.stage(0, 0, 0), mill.stage(0, 1, 0), mill.stage(0, 2, 0), mill.stage(0, 3, 0),
             mill.stage(0, 4, 0), mill.stage(0, -1, 0), mill.stage(1, 0, 0), mill.stage(-1, 0, 0), mill.stage(0, 0, 8),
@@ -427,7 +329,7 @@ public final class PromisesTest {
     }
 
     private static void jams() {
-        promise = "promise 9";
+        says("promise 9");
         WordMill mill = mill("stone a to b; stone b to none; stone c to none; word aba; word c; word d; word a;");
         dueAll("jams", new int[] {mill.jams(0), mill.jams(1), mill.jams(2), mill.jams(3), mill.jams(4), mill.jams(-1)},
             1, 2, -2, 1, NONE, NONE);
@@ -463,39 +365,30 @@ public final class PromisesTest {
     }
 
     private static void ways() {
-        promise = "promise 10";
+        says("promise 10");
         WordMill mill = mill("head a 1; head ab 2; root b 1; root ab 2; root a 3; root bb 4; ending b 1; ending bb 2; ending a 3;"
             + "word ab; word abb; word abbb; word b; word c; word baaa; word baa; word abab;");
-        dueAll("ways of ab", all(mill, 0), 200, 310, 1100);
-        dueAll("ways of abb", all(mill, 1), 210, 311, 320, 1110, 1400, 2100);
-        dueAll("ways of abbb", all(mill, 2), 211, 220, 312, 321, 1111, 1120, 1410, 2110, 2400);
-        dueAll("ways of b", all(mill, 3), 100);
-        dueAll("ways of c", all(mill, 4));
-        dueAll("ways of baaa", all(mill, 5));
-        dueAll("ways of baa", all(mill, 6), 133);
-        dueAll("ways of abab", all(mill, 7), 231, 1131, 2200, 2310);
+        dueAll("ways of ab", waysOf(mill, 0), 200, 310, 1100);
+        dueAll("ways of abb", waysOf(mill, 1), 210, 311, 320, 1110, 1400, 2100);
+        dueAll("ways of abbb", waysOf(mill, 2), 211, 220, 312, 321, 1111, 1120, 1410, 2110, 2400);
+        dueAll("ways of b", waysOf(mill, 3), 100);
+        dueAll("ways of c", waysOf(mill, 4));
+        dueAll("ways of baaa", waysOf(mill, 5));
+        dueAll("ways of baa", waysOf(mill, 6), 133);
+        dueAll("ways of abab", waysOf(mill, 7), 231, 1131, 2200, 2310);
         dueAll("no such", new int[] {mill.way(8, NONE), mill.way(-1, 0), mill.way(0, -2), mill.way(0, 3)}, NONE, NONE, NONE, NONE);
         WordMill ground = mill("stone x to none; root a 1; word ax; word x;");
-        dueAll("ways behind a run", all(ground, 0), 100);
-        dueAll("ways of nothing", all(ground, 1));
+        dueAll("ways behind a run", waysOf(ground, 0), 100);
+        dueAll("ways of nothing", waysOf(ground, 1));
         ground.turn(0);
-        dueAll("ways behind no stone", all(ground, 0));
+        dueAll("ways behind no stone", waysOf(ground, 0));
         WordMill most = mill("head a 1; head b 1; head c 1; head d 1;" + "root a 1; root b 1; root c 1; root d 1; root e 1; root f 1;"
             + "root g 1; root h 1; ending a 1; ending b 1; ending c 1; ending d 1; ending e 1; ending f 1; word dhff;");
-        dueAll("the last way of all", all(most, 0), 4866);
-    }
-
-    private static int[] all(WordMill mill, int word) {
-        int[] codes = new int[mill.way(word, NONE)];
-        for (int i = 0; i < codes.length; i++) {
-            codes[i] = mill.way(word, i);
-        }
-        due("one way too many", mill.way(word, codes.length), NONE);
-        return codes;
+        dueAll("the last way of all", waysOf(most, 0), 4866);
     }
 
     private static void orderAndOn() {
-        promise = "promises 11 to 14";
+        says("promises 11 to 14");
         WordMill mill = mill("stone a to b; stone b to c; stone c to d; word abc;");
         dueAll("order", new int[] {mill.order(0), mill.order(1), mill.order(2), mill.order(3), mill.order(-1)}, 0, 1, 2, NONE, NONE);
         due("swap", mill.swap(0, 2), true);
@@ -516,7 +409,7 @@ public final class PromisesTest {
     }
 
     private static void grind() {
-        promise = "promise 15";
+        says("promise 15");
         WordMill mill = mill("stone x to none; head h 5; root a 1; root ab 2; ending b 3; ending c 4; word habbx; word abc; word xqrs;"
             + "word abb; word x; word a;");
         due("grind", mill.grind(0), 12);
@@ -532,7 +425,7 @@ public final class PromisesTest {
         dueAll("state", new int[] {mill.count(9), mill.word(4, 9)}, 3, 1);
         dueAll("no such", new int[] {mill.grind(6), mill.grind(-1)}, NONE, NONE);
         due("things done", mill.count(13), 4);
-        promise = "promise 19";
+        says("promise 19");
         dueAll("stock", new int[] {mill.stock(0, 0), mill.stock(1, 0), mill.stock(1, 1), mill.stock(2, 0)}, 2, 3, 1, 1);
         dueAll("no such", new int[] {mill.stock(0, 2), mill.stock(1, 2), mill.stock(2, 1), mill.stock(3, 0), mill.stock(-1, 0),
             mill.stock(0, -1)}, NONE, NONE, NONE, NONE, NONE, NONE);
@@ -546,7 +439,7 @@ public final class PromisesTest {
     }
 
     private static void laws() {
-        promise = "promise 15: laws";
+        says("promise 15: laws");
         law("tons", 11);
         law("ends * 100 + heads * 10 + dust", 210);
         law("turn * 100 + left", 3);
@@ -589,7 +482,7 @@ public final class PromisesTest {
     }
 
     private static void sell() {
-        promise = "promise 16";
+        says("promise 16");
         WordMill mill = mill("root a 1; ending a 2; ending b 3; head b 4; head c 5; word ab; word cabb; word aab;"
             + "land 10 a 1 b 2; land 20 a 2 c 1; land 30; land 999 c 1; land 5 a 9;");
         due("not enough", mill.sell(0), false);
@@ -613,19 +506,19 @@ public final class PromisesTest {
     }
 
     private static void centuries() {
-        promise = "promise 17";
+        says("promise 17");
         WordMill mill = mill("stone a to b; stone c to d; stone e to f; word ace; seed 5;");
         mill.turn(1);
         dueAll("none, wrong", new int[] {mill.centuries(0), mill.centuries(-1), mill.centuries(101)}, 0, NONE, NONE);
         due("things done", mill.count(13), 1);
         due("century", mill.centuries(1), 1);
-        due("word", wordCode(mill, 0), code("acf"));
+        due("word", wordOf(mill, 0), "acf");
         due("century", mill.centuries(1), 2);
-        due("word", wordCode(mill, 0), code("adf"));
+        due("word", wordOf(mill, 0), "adf");
         due("century", mill.centuries(4), 6);
-        due("word", wordCode(mill, 0), code("adf"));
+        due("word", wordOf(mill, 0), "adf");
         due("century", mill.centuries(1), 7);
-        due("word", wordCode(mill, 0), code("bdf"));
+        due("word", wordOf(mill, 0), "bdf");
         due("century", mill.centuries(100), 107);
         due("count(7)", mill.count(7), 107);
         due("things done", mill.count(13), 6);
@@ -635,7 +528,7 @@ public final class PromisesTest {
         String[] left = {"abcdefn", "abcdlfn", "aicdlfn", "aicdlfn", "aicdlfn", "aicklfn", "aicklfn", "hicklfn"};
         for (int n = 0; n < left.length; n++) {
             seven.centuries(1);
-            due("word behind century " + n, wordCode(seven, 0), code(left[n]));
+            due("word behind century " + n, wordOf(seven, 0), left[n]);
         }
         WordMill dying = mill("stone a to none; stone a to b after b; word aa; word ba; word b; word aab; word c; word ba; seed 9999;");
         due("alike ones", dying.word(5, 9), 0);
@@ -653,16 +546,8 @@ public final class PromisesTest {
         due("new object", new WordMill().centuries(100), 100);
     }
 
-    private static int[] fates(WordMill mill) {
-        int[] fates = new int[mill.count(0)];
-        for (int w = 0; w < fates.length; w++) {
-            fates[w] = mill.word(w, 9);
-        }
-        return fates;
-    }
-
     private static void undo() {
-        promise = "promise 18";
+        says("promise 18");
         WordMill mill = mill("stone a to none; stone b to c; root a 2; word a; word b; word a; land 7 a 1; brings = tons * 10; seed 3;");
         due("nothing", mill.undo(), false);
         mill.turn(0);
@@ -700,7 +585,7 @@ public final class PromisesTest {
     }
 
     private static void made() {
-        promise = "promise 20";
+        says("promise 20");
         WordMill mill = mill("root a 1; root ab 1; ending b 1; ending bc 1; ending c 1;");
         int[][] table = {{1, 1, 0, -2}, {2, 2, 1, 110}, {3, 4, 2, 111}, {4, 6, 2, 121}, {5, 2, 0, -2}, {6, 1, 0, -2}, {7, 0, 0, -2}};
         mill.turn(0);
@@ -746,7 +631,7 @@ public final class PromisesTest {
     }
 
     private static void pairs() {
-        promise = "promise 21";
+        says("promise 21");
         WordMill mill = mill("stone a to b; stone b to none; stone c to d; pair ac d ad; pair c d; pair a b a; pair ca d da;");
         dueAll("pair", new int[] {mill.pair(0, false), mill.pair(0, true), mill.pair(1, false), mill.pair(1, true), mill.pair(2, false),
             mill.pair(2, true), mill.pair(3, false)}, 1, 0, 1, -2, 0, 0, 1);
@@ -760,7 +645,7 @@ public final class PromisesTest {
     }
 
     private static void orders() {
-        promise = "promises 22 to 24";
+        says("promises 22 to 24");
         WordMill mill = mill("stone a to b; stone b to c; stone c to d; stone q to r; pair a d; pair ab cd; pair ab dd; pair x y;");
         dueAll("orders", new int[] {mill.orders(0), mill.orders(1), mill.orders(2), mill.orders(-1), mill.orders(5)}, 24, 4, 0, NONE, NONE);
         dueAll("orderAt", new int[] {mill.orderAt(1, 0), mill.orderAt(1, 1), mill.orderAt(1, 2), mill.orderAt(1, 3), mill.orderAt(1, 4)},
@@ -803,7 +688,7 @@ public final class PromisesTest {
     }
 
     private static void sets() {
-        promise = "promise 25";
+        says("promise 25");
         WordMill mill = mill("stone a to b; stone b to c; stone q to r; pair a c b; pair b c; pair aq cr b; pair a q r;");
         dueAll("sets", new int[] {mill.sets(0, false, 0), mill.sets(0, false, 1), mill.sets(1, false, 0), mill.sets(1, false, 1),
             mill.sets(3, false, 0), mill.sets(3, false, 1), mill.sets(4, false, 0), mill.sets(4, false, 1)}, 8, 0, 2, 3, 1, 7, 0, -2);
@@ -821,7 +706,7 @@ public final class PromisesTest {
     }
 
     private static void list() {
-        promise = "promise 26";
+        says("promise 26");
         WordMill mill = mill(MILL);
         dueAll("list", new int[] {mill.list(0), mill.list(1), mill.list(2), mill.list(3), mill.list(-1)}, 8, 4, 1, NONE, NONE);
         WordMill none = mill("stone a to b; pair a b; pair b b;");
@@ -843,7 +728,7 @@ public final class PromisesTest {
     }
 
     private static void next() {
-        promise = "promise 27";
+        says("promise 27");
         WordMill mill = mill("stone a to b; stone c to d; stone e to f; pair a b; pair x x; pair c d; pair ace bdf; pair eca fdb; pair a a;");
         dueAll("next", new int[] {mill.next(0, 0), mill.next(0, 1), mill.next(1, 0), mill.next(1, 1), mill.next(3, 0), mill.next(3, 1),
             mill.next(4, 0), mill.next(4, 1), mill.next(5, 0), mill.next(5, 1)}, 3, 8, 3, 4, 3, 2, 4, 1, 5, 1);
@@ -856,7 +741,7 @@ public final class PromisesTest {
     }
 
     private static void parted() {
-        promise = "promise 28";
+        says("promise 28");
         WordMill mill = mill("stone a to b; stone b to c; stone c to d; pair a d c; pair x x; pair a q;");
         dueAll("parted", new int[] {mill.parted(0), mill.parted(1), mill.parted(2), mill.parted(3), mill.parted(4), mill.parted(-1)},
             3, 2, 2, -2, NONE, NONE);
@@ -875,7 +760,7 @@ public final class PromisesTest {
     }
 
     private static void derived() {
-        promise = "promise 29";
+        says("promise 29");
         WordMill mill = mill("stone a to b; stone b to c; stone c to d; stone d to e; stone e to f; stone a to c; stone x to none after edge;"
             + "word a; word c; word e; word f; word a; word xxxa; word g;");
         dueAll("how many", new int[] {mill.derived(0, 1, NONE), mill.derived(0, 2, NONE), mill.derived(0, 3, NONE), mill.derived(0, 4, NONE),
@@ -896,12 +781,12 @@ public final class PromisesTest {
     }
 
     private static void apart() {
-        promise = "promise 30";
+        says("promise 30");
         WordMill mill = mill("stone z to none; word kitten; word sitting; word abcdefgh; word bcdefgha; word a; word zzzz; word ing; word ting;");
         dueAll("apart", new int[] {mill.apart(0, 1), mill.apart(1, 0), mill.apart(2, 3), mill.apart(2, 4), mill.apart(4, 5), mill.apart(2, 2)},
             3, 3, 2, 7, 4, 0);
         dueAll("no such", new int[] {mill.apart(8, 0), mill.apart(0, 8), mill.apart(-1, 0), mill.apart(0, -1)}, NONE, NONE, NONE, NONE);
-        promise = "promise 31";
+        says("promise 31");
         dueAll("rhymes", new int[] {mill.rhymes(0, 1), mill.rhymes(1, 7), mill.rhymes(7, 6), mill.rhymes(2, 2), mill.rhymes(3, 4),
             mill.rhymes(4, 3)}, 0, 4, 3, 8, 1, 1);
         dueAll("no such", new int[] {mill.rhymes(8, 0), mill.rhymes(0, 8), mill.rhymes(-1, 0), mill.rhymes(0, -1)}, NONE, NONE, NONE, NONE);
@@ -911,7 +796,7 @@ public final class PromisesTest {
     }
 
     private static void bestTurn() {
-        promise = "promise 32";
+        says("promise 32");
         WordMill mill = mill("stone a to b; stone c to d; stone c to d; pair a a; pair aa aa; pair c c; pair ac ad; pair x x;");
         dueAll("best turn", new int[] {mill.bestTurn(0), mill.bestTurn(1), mill.bestTurn(2), mill.bestTurn(-1)}, 0, 4, NONE, NONE);
         mill.turn(0);
@@ -926,7 +811,7 @@ public final class PromisesTest {
     }
 
     private static void mostUsed() {
-        promise = "promise 33";
+        says("promise 33");
         WordMill mill = mill("root a 1; root ab 2; root z 3; ending b 1; ending c 1; word abb; word abc; word abcc; word zzz; word ac;");
         dueAll("roots", new int[] {mill.mostUsed(0, 0), mill.mostUsed(0, 1)}, 0, 3);
         dueAll("endings", new int[] {mill.mostUsed(1, 0), mill.mostUsed(1, 1)}, 1, 5);
@@ -938,7 +823,7 @@ public final class PromisesTest {
         dueAll("of alike ones the first", new int[] {mill.mostUsed(0, 0), mill.mostUsed(0, 1)}, 1, 3);
         mill.grind(2);
         dueAll("whole ones alone", new int[] {mill.mostUsed(0, 0), mill.mostUsed(0, 1), mill.mostUsed(1, 0), mill.mostUsed(1, 1)}, 0, 2, 0, 4);
-        promise = "promise 37";
+        says("promise 37");
         due("forged", mill.forged(), 4);
         mill.grind(0);
         mill.grind(1);
@@ -952,7 +837,7 @@ public final class PromisesTest {
     }
 
     private static void lacks() {
-        promise = "promise 34";
+        says("promise 34");
         WordMill mill = mill("root a 1; ending b 1; head c 1; head d 1; word ab; word a; land 5 a 1 b 2; land 6 a 3 d 1; land 7 b 1;");
         dueAll("lacks", new int[] {mill.lacks(0, 0), mill.lacks(1, 0), mill.lacks(2, 0), mill.lacks(2, 1)}, 4, 3, 0, 1);
         mill.grind(0);
@@ -968,19 +853,19 @@ public final class PromisesTest {
     }
 
     private static void future() {
-        promise = "promise 35";
+        says("promise 35");
         WordMill mill = mill("stone a to b; stone c to d; stone e to f; word ace; word bdf; word q; seed 5;");
         dueAll("future", new int[] {mill.future(0, 0, 2), mill.future(0, 1, 2), mill.future(0, 1, 1), mill.future(0, 2, 1), mill.future(0, 6, 0),
             mill.future(0, 7, 0), mill.future(0, 7, 8), mill.future(0, 7, 9), mill.future(1, 6, 9), mill.future(1, 7, 9), mill.future(1, 300, 9)},
             5, 6, 3, 4, 1, 2, 3, 0, 0, 2, 2);
         dueAll("no such", new int[] {mill.future(3, 0, 0), mill.future(-1, 0, 0), mill.future(0, -1, 0), mill.future(0, 301, 0),
             mill.future(0, 0, 10), mill.future(0, 0, -1)}, NONE, NONE, NONE, NONE, NONE, NONE);
-        promise = "promise 38";
+        says("promise 38");
         dueAll("lives", new int[] {mill.lives(0), mill.lives(1), mill.lives(2), mill.lives(3), mill.lives(-1)}, -2, 7, -2, NONE, NONE);
-        promise = "promise 39";
+        says("promise 39");
         dueAll("left", new int[] {mill.left(0), mill.left(6), mill.left(7), mill.left(300), mill.left(301), mill.left(-1)},
             7, 7, 5, 5, NONE, NONE);
-        due("nothing happened", wordCode(mill, 0), code("ace"));
+        due("nothing happened", wordOf(mill, 0), "ace");
         due("nothing happened", mill.count(7), 0);
         mill.centuries(3);
         dueAll("from where it is", new int[] {mill.lives(1), mill.left(3), mill.left(4), mill.future(0, 4, 0)}, 4, 7, 5, 2);
@@ -1001,7 +886,7 @@ public final class PromisesTest {
     }
 
     private static void sales() {
-        promise = "promise 36";
+        says("promise 36");
         WordMill mill = mill("root a 1; root b 1; word a; word a; word b; word b; land 10 a 2; land 6 a 1; land 5 a 1 b 1; land 1; land 11 a 1 b 2;");
         dueAll("nothing in stock", new int[] {mill.sales(0), mill.sales(1), mill.sales(2), mill.sales(-1)}, 1, 8, NONE, NONE);
         mill.grind(0);
@@ -1022,7 +907,7 @@ public final class PromisesTest {
     }
 
     private static void slots() {
-        promise = "promises 40, 41";
+        says("promises 40, 41");
         WordMill mill = mill(MILL);
         dueAll("nothing is held", new int[] {mill.restore(0) ? 1 : 0, mill.restore(3) ? 1 : 0, mill.restore(-1) ? 1 : 0}, 0, 0, 0);
         dueAll("no such", new int[] {mill.hold(3) ? 1 : 0, mill.hold(-1) ? 1 : 0}, 0, 0);
@@ -1053,7 +938,7 @@ public final class PromisesTest {
 
     /** What would be is asked again behind each thing that changes it. */
     private static void staleness() {
-        promise = "promises 22 to 28 behind things done";
+        says("promises 22 to 28 behind things done");
         WordMill mill = mill("stone a to b; stone b to c; pair aaaa cccc cccc; pair bbbb cccc; seed 1;");
         dueAll("told", answers(mill), 1, 0, 0, 1, 3, 2, -2, 6);
         mill.swap(0, 1);
@@ -1071,7 +956,7 @@ public final class PromisesTest {
         feed(mill, "stone a to c; pair a c; pair b b;");
         mill.read();
         dueAll("another text", answers(mill), 1, 0, 0, 1, 1, 1, -2, 2);
-        promise = "terms: a text in place of the one ahead";
+        says("terms: a text in place of the one ahead");
         WordMill again = mill("root a 1; root b 2; ending b 1; head c 1; land 9 a 1 b 2; word ab; seed 77; class ab c; brings = 7;");
         dueAll("made", new int[] {again.made(2, 0), again.made(1, 0)}, 4, 2);
         feed(again, "root q 1; root b 1; word q; land 3 b 1; land 4 q 1;");
@@ -1083,9 +968,9 @@ public final class PromisesTest {
         feed(again, "stone a to b; stone c to d; stone e to f; word ace;");
         again.read();
         again.centuries(1);
-        due("seed 0 again", wordCode(again, 0), code("acf"));
+        due("seed 0 again", wordOf(again, 0), "acf");
         again.centuries(1);
-        due("seed 0 again", wordCode(again, 0), code("bcf"));
+        due("seed 0 again", wordOf(again, 0), "bcf");
         due("no pieces left", again.made(1, 0), 0);
         feed(again, "root a 1; root b 1; land 5; land 6; word a;");
         again.read();
@@ -1097,37 +982,48 @@ public final class PromisesTest {
             mill.sets(1, false, 1), mill.parted(1), mill.bestTurn(0), mill.list(0)};
     }
 
+    private static final String FULL = "class ca ab; class cb bc; class cc cd; class cd de; class ce ae; class cf xy;"
+        + "stone a to b after ca; stone b to c before cb; stone c to none after edge; stone d to a before edge;"
+        + "stone e to d after cd before ce; stone a to e; stone b to none before cc;"
+        + "root a 1; root b 2; root c 3; root d 4; root ab 5; root bc 6; root cd 7; root abcdabcd 9;"
+        + "ending a 1; ending b 2; ending c 3; ending ab 4; ending bc 5; ending cd 6; head a 1; head b 2; head ab 3; head bc 4;"
+        + "word abcdabcd; word bcdae; word abab; word d; word ad; word cad; word abcd; word eeb; word bb; word c;"
+        + "pair abcdabcd e b; pair ade de a; pair bab ebe; pair dead dea ded; pair cab eb; pair a e e; pair d a a; pair e e d;"
+        + "land 100 a 1 b 1 c 1 d 1; land 50 ab 1 bc 1 cd 1 abcdabcd 1; land 7 a 1; land 0 b 1; land 999 d 1;"
+        + "brings = if tons < 3 then tons * 100 else if dust < 2 then left - turn else if 1 < heads then 5 else if ends < 1 then 9 else 7;"
+        + "seed 4711;";
+
     /** As much of all as there is room for, every call with every number near what it takes, compared with the plain mill. */
     private static void fullest() {
-        promise = "the fullest text";
-        String text = "class ca ab; class cb bc; class cc cd; class cd de; class ce ae; class cf xy;"
-            + "stone a to b after ca; stone b to c before cb; stone c to none after edge; stone d to a before edge;"
-            + "stone e to d after cd before ce; stone a to e; stone b to none before cc;"
-            + "root a 1; root b 2; root c 3; root d 4; root ab 5; root bc 6; root cd 7; root abcdabcd 9;"
-            + "ending a 1; ending b 2; ending c 3; ending ab 4; ending bc 5; ending cd 6; head a 1; head b 2; head ab 3; head bc 4;"
-            + "word abcdabcd; word bcdae; word abab; word d; word ad; word cad; word abcd; word eeb; word bb; word c;"
-            + "pair abcdabcd e b; pair ade de a; pair bab ebe; pair dead dea ded; pair cab eb; pair a e e; pair d a a; pair e e d;"
-            + "land 100 a 1 b 1 c 1 d 1; land 50 ab 1 bc 1 cd 1 abcdabcd 1; land 7 a 1; land 0 b 1; land 999 e 1;".replace("e 1", "d 1")
-            + "brings = if tons < 3 then tons * 100 else if dust < 2 then left - turn else if 1 < heads then 5 else if ends < 1 then 9 else 7;"
-            + "seed 4711;";
-        WordMill mill = mill(text);
-        PlainMill plain = new PlainMill();
-        for (int at = 0; at < text.length(); at += 4) {
-            int four = 0;
-            for (int i = 0; i < 4; i++) {
-                four = four << 8 | (at + i < text.length() ? text.charAt(at + i) : ' ');
-            }
-            int b = at / 4 % 5;
-            FIVE[b] = four;
-            if (b == 4 || at + 4 >= text.length()) {
-                java.util.Arrays.fill(FIVE, b + 1, 5, 0x20202020);
-                plain.feed(FIVE[0], FIVE[1], FIVE[2], FIVE[3], FIVE[4]);
-            }
-        }
-        due("read", plain.read(), 0);
+        says("the fullest text");
+        WordMill mill = mill(FULL);
         dueAll("full", new int[] {mill.count(0), mill.count(1), mill.count(2), mill.count(3), mill.count(4), mill.count(5), mill.count(6),
             mill.count(16)}, 10, 7, 8, 6, 4, 8, 5, 6);
-        compare(mill, plain);
+        for (int a = -2; a <= 18; a++) {
+            compare(a, false);
+            compare(a, true);
+        }
+    }
+
+    /** New mills for each number, since one object is used for at most 512 calls. */
+    private static void compare(int a, boolean behindThingsDone) {
+        WordMill mill = mill(FULL);
+        PlainMill plain = new PlainMill();
+        for (int at = 0; at < FULL.length(); at += 20) {
+            int[] five = five(FULL, at);
+            plain.feed(five[0], five[1], five[2], five[3], five[4]);
+        }
+        due("read", plain.read(), 0);
+        if (behindThingsDone) {
+            doThings(mill, plain);
+        }
+        compareOne(mill, plain, a);
+        for (int b = -2; b <= 11 && a <= 11; b++) {
+            compareTwo(mill, plain, a, b);
+        }
+    }
+
+    private static void doThings(WordMill mill, PlainMill plain) {
         due("turn", mill.turn(6), plain.turn(6));
         due("swap", mill.swap(0, 6), plain.swap(0, 6));
         for (int w = 9; w >= 4; w--) {
@@ -1136,56 +1032,48 @@ public final class PromisesTest {
         due("sell", mill.sell(4), plain.sell(4));
         due("sell", mill.sell(2), plain.sell(2));
         due("centuries", mill.centuries(2), plain.centuries(2));
-        compare(mill, plain);
     }
 
-    private static final int[] FIVE = new int[5];
-
-    private static void compare(WordMill mill, PlainMill plain) {
+    private static void compareOne(WordMill mill, PlainMill plain, int a) {
         due("forged()", mill.forged(), plain.forged());
-        for (int a = -2; a <= 18; a++) {
-            due("count(" + a + ")", mill.count(a), plain.count(a));
-            due("left(" + a * 20 + ")", mill.left(a * 20), plain.left(a * 20));
-        }
-        for (int a = -2; a <= 11; a++) {
-            due("jams(" + a + ")", mill.jams(a), plain.jams(a));
-            due("order(" + a + ")", mill.order(a), plain.order(a));
-            due("isOn(" + a + ")", mill.isOn(a), plain.isOn(a));
-            due("orders(" + a + ")", mill.orders(a), plain.orders(a));
-            due("swaps(" + a + ")", mill.swaps(a), plain.swaps(a));
-            due("list(" + a + ")", mill.list(a), plain.list(a));
-            due("parted(" + a + ")", mill.parted(a), plain.parted(a));
-            due("bestTurn(" + a + ")", mill.bestTurn(a), plain.bestTurn(a));
-            due("sales(" + a + ")", mill.sales(a), plain.sales(a));
-            due("lives(" + a + ")", mill.lives(a), plain.lives(a));
-            for (int b = -2; b <= 11; b++) {
-                String both = "(" + a + ", " + b + ")";
-                due("word" + both, mill.word(a, b), plain.word(a, b));
-                due("run" + both, mill.run(a, b), plain.run(a, b));
-                due("way" + both, mill.way(a, b), plain.way(a, b));
-                due("stock" + both, mill.stock(a, b), plain.stock(a, b));
-                due("pair" + both, mill.pair(a, b % 2 == 0), plain.pair(a, b % 2 == 0));
-                due("next" + both, mill.next(a, b), plain.next(a, b));
-                due("apart" + both, mill.apart(a, b), plain.apart(a, b));
-                due("rhymes" + both, mill.rhymes(a, b), plain.rhymes(a, b));
-                due("mostUsed" + both, mill.mostUsed(a, b), plain.mostUsed(a, b));
-                due("lacks" + both, mill.lacks(a, b), plain.lacks(a, b));
-                due("made" + both, mill.made(a + 2, b), plain.made(a + 2, b));
-                due("sets" + both, mill.sets(a, b % 2 == 0, b / 2), plain.sets(a, b % 2 == 0, b / 2));
-                due("stage" + both, mill.stage(a, b, 8), plain.stage(a, b, 8));
-                due("future" + both, mill.future(a, 20 * b, b), plain.future(a, 20 * b, b));
-                due("derived" + both, mill.derived(a, b, NONE), plain.derived(a, b, NONE));
-                due("derived" + both, mill.derived(a, b, 0), plain.derived(a, b, 0));
-            }
-        }
-        for (int k = 0; k <= 8; k++) {
-            due("orderAt", mill.orderAt(k, k), plain.orderAt(k, k));
-            due("orderAt", mill.orderAt(0, k), plain.orderAt(0, k));
-        }
+        due("count(" + a + ")", mill.count(a), plain.count(a));
+        due("left(" + a * 20 + ")", mill.left(a * 20), plain.left(a * 20));
+        due("jams(" + a + ")", mill.jams(a), plain.jams(a));
+        due("order(" + a + ")", mill.order(a), plain.order(a));
+        due("isOn(" + a + ")", mill.isOn(a), plain.isOn(a));
+        due("orders(" + a + ")", mill.orders(a), plain.orders(a));
+        due("swaps(" + a + ")", mill.swaps(a), plain.swaps(a));
+        due("list(" + a + ")", mill.list(a), plain.list(a));
+        due("parted(" + a + ")", mill.parted(a), plain.parted(a));
+        due("bestTurn(" + a + ")", mill.bestTurn(a), plain.bestTurn(a));
+        due("sales(" + a + ")", mill.sales(a), plain.sales(a));
+        due("lives(" + a + ")", mill.lives(a), plain.lives(a));
+        due("orderAt(" + a + ", " + a + ")", mill.orderAt(a, a), plain.orderAt(a, a));
+        due("orderAt(0, " + a + ")", mill.orderAt(0, a), plain.orderAt(0, a));
+    }
+
+    private static void compareTwo(WordMill mill, PlainMill plain, int a, int b) {
+        String both = "(" + a + ", " + b + ")";
+        due("word" + both, mill.word(a, b), plain.word(a, b));
+        due("run" + both, mill.run(a, b), plain.run(a, b));
+        due("way" + both, mill.way(a, b), plain.way(a, b));
+        due("stock" + both, mill.stock(a, b), plain.stock(a, b));
+        due("pair" + both, mill.pair(a, b % 2 == 0), plain.pair(a, b % 2 == 0));
+        due("next" + both, mill.next(a, b), plain.next(a, b));
+        due("apart" + both, mill.apart(a, b), plain.apart(a, b));
+        due("rhymes" + both, mill.rhymes(a, b), plain.rhymes(a, b));
+        due("mostUsed" + both, mill.mostUsed(a, b), plain.mostUsed(a, b));
+        due("lacks" + both, mill.lacks(a, b), plain.lacks(a, b));
+        due("made" + both, mill.made(a + 2, b), plain.made(a + 2, b));
+        due("sets" + both, mill.sets(a, b % 2 == 0, b / 2), plain.sets(a, b % 2 == 0, b / 2));
+        due("stage" + both, mill.stage(a, b, 8), plain.stage(a, b, 8));
+        due("future" + both, mill.future(a, 20 * b, b), plain.future(a, 20 * b, b));
+        due("derived" + both, mill.derived(a, b, NONE), plain.derived(a, b, NONE));
+        due("derived" + both, mill.derived(a, b, 0), plain.derived(a, b, 0));
     }
 
     private static void counts() {
-        promise = "promise 42";
+        says("promise 42");
         WordMill mill = mill(MILL);
         dueAll("told", new int[] {mill.count(0), mill.count(1), mill.count(2), mill.count(3), mill.count(4), mill.count(5), mill.count(6),
             mill.count(16)}, 3, 3, 3, 2, 1, 2, 2, 1);
