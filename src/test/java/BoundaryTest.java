@@ -760,6 +760,10 @@ public final class BoundaryTest extends Checks {
         }
         WordMill none = mill("pair a a; pair a b;");
         dueAll("without stones", new int[] {none.orders(0), none.orders(1), none.orders(2), none.orders(3)}, 1, 1, 0, NONE);
+        says("terms: ORDERS: of some that leave the same the first, too");
+        WordMill same = mill("stone q to r; stone r to s; stone r to t; stone z to y; pair q t;");
+        dueAll("0 2 1 and 1 0 2, with 3 anywhere", new int[] {same.orders(1), same.orderAt(1, 0), same.orderAt(1, 1), same.orderAt(1, 2),
+            same.orderAt(1, 3), same.swaps(1)}, 8, 0, 2, 1, 3, 1);
     }
 
     private static void orderAt() {
@@ -827,6 +831,13 @@ public final class BoundaryTest extends Checks {
             none.sets(2, false, 1)}, 1, 1, 0, 0, -2);
         WordMill least = mill("stone q to r; stone a to b; stone a to b; pair a b;");
         dueAll("of some the least", new int[] {least.sets(1, false, 0), least.sets(1, false, 1)}, 6, 2);
+        says("terms: SETS: each STONE takes once, whatever stands ahead of it in the order");
+        WordMill once = mill("stone a to none after edge; stone b to none before edge; pair aaa aa; pair bbb bb; pair aaa a;");
+        for (int n = 0; n < 2; n++) {
+            dueAll("once", new int[] {once.sets(1, false, 0), once.sets(1, false, 1), once.sets(2, false, 0), once.sets(2, false, 1),
+                once.sets(3, false, 0)}, 2, 1, 1, 3, 0);
+            once.swap(0, 1);
+        }
     }
 
     private static void setsInTheOtherTongue() {
@@ -839,6 +850,11 @@ public final class BoundaryTest extends Checks {
         dueAll("not the first tongue", new int[] {mill.sets(1, false, 0), mill.sets(1, false, 1)}, 0, -2);
         WordMill untold = mill(CHAIN + times(8, "pair a z; "));
         dueAll("none tells it", new int[] {untold.sets(8, true, 0), untold.sets(8, true, 1), untold.sets(9, true, 0)}, 128, 0, NONE);
+        says("terms: SETS of STONES, in the order as it is");
+        WordMill order = mill("stone a to b; stone b to c; pair a c c;");
+        dueAll("as told", new int[] {order.sets(1, false, 0), order.sets(1, true, 0), order.sets(1, true, 1), order.parted(1)}, 1, 1, 3, 2);
+        order.swap(0, 1);
+        dueAll("swapped", new int[] {order.sets(1, false, 0), order.sets(1, true, 0), order.sets(1, true, 1), order.parted(1)}, 0, 0, -2, -2);
     }
 
     private static int[] listRow(WordMill mill) {
@@ -1016,6 +1032,8 @@ public final class BoundaryTest extends Checks {
             + "ending d 1; ending e 1; ending f 1; head a 1; head b 1; head c 1; head d 1; word dhf; word dhf; word ab;");
         dueAll("the last of each", new int[] {full.mostUsed(0, 0), full.mostUsed(0, 1), full.mostUsed(1, 0), full.mostUsed(1, 1),
             full.mostUsed(2, 0), full.mostUsed(2, 1)}, 7, 2, 5, 2, 3, 2);
+        WordMill first = mill("root a 1; root b 1; root c 1; root d 1; root e 1; root f 1; root g 1; root h 1; ending a 1; head b 1; word haa; word haa;");
+        dueAll("each sort for itself", new int[] {first.mostUsed(0, 0), first.mostUsed(0, 1), first.mostUsed(1, 1), first.mostUsed(2, 1)}, 7, 2, 4, 0);
     }
 
     private static void lacks() {

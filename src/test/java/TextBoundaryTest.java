@@ -50,6 +50,7 @@ public final class TextBoundaryTest extends Checks {
         letters();
         faultChangesNothing();
         inPlaceOfTheOneAhead();
+        nothingOfEarlierTexts();
         end();
     }
 
@@ -178,6 +179,12 @@ public final class TextBoundaryTest extends Checks {
         due("the latest", mill.place(), 4);
         mill.read();
         due("nothing read is without", mill.place(), NONE);
+        for (int fault = 1; fault <= 5; fault++) {
+            due("read", read(mill, FAULTY[fault - 1]), fault);
+            due("a place", mill.place() >= 0, true);
+            due("read", read(mill, "word a;"), 0);
+            due("without, behind a FAULT " + fault, mill.place(), NONE);
+        }
     }
 
     // ---- tokens
@@ -215,6 +222,49 @@ public final class TextBoundaryTest extends Checks {
             } else {
                 faultAt(1, c == ';' ? 7 : 6, "word a" + c + ";");
             }
+            byteOfNameOrInt(c, blank, letter);
+            byteOfSign(c, blank);
+        }
+    }
+
+    private static void byteOfNameOrInt(char c, boolean blank, boolean letter) {
+        if (letter) {
+            fine("word " + c + ";");
+        } else {
+            faultAt(1, blank ? 6 : 5, "word " + c + ";");
+        }
+        if (c >= '0' && c <= '9') {
+            fine("seed " + c + ";");
+        } else {
+            faultAt(1, blank ? 6 : 5, "seed " + c + ";");
+        }
+    }
+
+    private static void byteOfSign(char c, boolean blank) {
+        if (c >= '0' && c <= '9' || c == '+' || c == '-' || c == '*' || c == '/') {
+            fine("brings=1" + c + "1;");
+        } else {
+            faultAt(1, blank || c == ';' ? 9 : 8, "brings=1" + c + "1;");
+        }
+        if (c == '=') {
+            fine("brings" + c + "1;");
+        } else {
+            faultAt(1, blank ? 7 : c >= 'a' && c <= 'z' ? 0 : 6, "brings" + c + "1;");
+        }
+        if (c == '<') {
+            fine("brings=if 1 " + c + " 2 then 3 else 4;");
+        } else {
+            faultAt(1, blank ? 14 : "+-*/".indexOf(c) >= 0 ? 16 : 12, "brings=if 1 " + c + " 2 then 3 else 4;");
+        }
+        if (c == '(') {
+            fine("brings=" + c + "1);");
+        } else {
+            faultAt(1, blank || c >= '0' && c <= '9' ? 9 : 7, "brings=" + c + "1);");
+        }
+        if (c == ')') {
+            fine("brings=(1" + c + ";");
+        } else {
+            faultAt(1, blank || c >= '0' && c <= '9' || "+-*/".indexOf(c) >= 0 ? 10 : 9, "brings=(1" + c + ";");
         }
     }
 
@@ -577,6 +627,10 @@ public final class TextBoundaryTest extends Checks {
     private static final String SMALL = "stone a to b; stone c to none; root b 2; ending b 3; head c 1; word ca; word acb; word a; word da;"
         + "pair a b; land 7 b 1; land 8; brings = tons + dust; seed 5; class xy ab;";
 
+    /** A text of each FAULT, by its number. */
+    private static final String[] FAULTY = {"word q; word", times(6, "class ab c;") + "class", "root a 1; root a 1;", "word q; land 1 q 1;",
+        "land 1000; word q;"};
+
     private static WordMill used() {
         WordMill mill = mill(SMALL);
         mill.turn(1);
@@ -590,12 +644,11 @@ public final class TextBoundaryTest extends Checks {
     }
 
     private static void faultChangesNothing() {
-        String[] texts = {"word q; word", times(6, "class ab c;") + "class", "root a 1; root a 1;", "word q; land 1 q 1;", "land 1000; word q;"};
         for (int fault = 1; fault <= 5; fault++) {
             says("terms: a text with a FAULT changes nothing but the tape: " + fault);
             WordMill mill = used();
             String before = goingOn(mill);
-            due("read", read(mill, texts[fault - 1]), fault);
+            due("read", read(mill, FAULTY[fault - 1]), fault);
             due("goes on", goingOn(mill), before);
             due("count(12)", mill.count(12), 0);
             dueAll("what is told", new int[] {mill.lacks(0, 0), mill.sales(0), mill.pair(0, false), mill.made(2, 0)}, 0, 8, 1, 2);
@@ -634,6 +687,37 @@ public final class TextBoundaryTest extends Checks {
         says("terms: a shorter text leaves nothing of a longer one");
         due("read", read(mill, "word q;"), 0);
         due("goes on", goingOn(mill), goingOn(mill("word q;")));
+    }
+
+    private static final String EARLIER = "class xy a; class zw b; root r 5; ending e 2; head h 3; word q; word qq; pair a b c; stone a to b;"
+        + "land 9 r 5 e 5 h 5; brings = 77; seed 9;";
+
+    /** Behind a text told, one of nothing and one with a FAULT: nothing of these is in the next one. */
+    private static void nothingOfEarlierTexts() {
+        says("terms: told already, told ahead, as told: in the text itself");
+        String[] fresh = {"class xy c;", "root r 1; ending e 1; head h 1;", "word q;", "seed 0;"};
+        for (String text : fresh) {
+            due("read() of " + text, read(behindOthers(), text), 0);
+        }
+        String[] untold = {"stone a to b after xy;", "stone a to b before zw;", "class ab c; stone a to b after xy;", "land 1 r 1;", "land 1 e 1;",
+            "land 1 h 1;", "root a 1; ending b 1; head c 1; land 1 a 1 b 1 c 1 r 1;", "root r 1; land 1 r 1 e 1;"};
+        for (String text : untold) {
+            due("read() of " + text, read(behindOthers(), text), 4);
+        }
+        WordMill mill = behindOthers();
+        due("read", read(mill, "root r 1; ending e 1; head h 1; word r; word q; pair a a; land 1; land 2 r 1;" + ABC), 0);
+        dueAll("counts", new int[] {mill.count(0), mill.count(1), mill.count(5), mill.count(6), mill.count(16)}, 3, 5, 1, 2, 0);
+        dueAll("no more WANTS, no LAW, no OTHER tongue", new int[] {mill.lacks(0, 0), mill.lacks(1, 0), mill.lacks(2, 0), mill.pair(0, true),
+            mill.grind(0), mill.grind(1), mill.sell(0) ? 1 : 0}, 1, 0, 0, -2, 1, 0, 1);
+        mill.centuries(1);
+        due("SEED 0", wordOf(mill, 2), wordOf(oneCentury(ABC), 0));
+    }
+
+    private static WordMill behindOthers() {
+        WordMill mill = mill(EARLIER);
+        due("of nothing", mill.read(), 0);
+        due("with a FAULT at its end", read(mill, EARLIER + "land 1000;"), 5);
+        return mill;
     }
 
     private static final String ABC = "stone a to b; stone c to d; stone e to f; stone g to h; stone i to j; word acegi;";
