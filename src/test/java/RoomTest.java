@@ -1,8 +1,9 @@
 import java.lang.management.ManagementFactory;
 
-/** 512 of the dearest calls make far less than the room of one run has (some 7.3 million elements). */
+/** As many of the dearest calls as an object may be asked make far less than the room of one run has (7.3 million elements). */
 public final class RoomTest {
     private static final long MOST_BYTES = 4_000_000;
+    private static final int MOST_CALLS = 512 - 60;
 
     private static long made() {
         return ((com.sun.management.ThreadMXBean) ManagementFactory.getThreadMXBean()).getCurrentThreadAllocatedBytes();
@@ -33,7 +34,10 @@ public final class RoomTest {
 
     public static void main(String[] args) {
         byte[] text = bytes(TEXT);
-        long worst = Math.max(run(text, 0), Math.max(run(text, 1), run(text, 2)));
+        long worst = 0;
+        for (int which = 0; which < 4; which++) {
+            worst = Math.max(worst, run(text, which));
+        }
         System.out.println("at most " + worst + " bytes made");
         if (worst > MOST_BYTES) {
             System.exit(1);
@@ -43,29 +47,54 @@ public final class RoomTest {
     private static long run(byte[] text, int which) {
         long before = made();
         WordMill mill = new WordMill();
+        int calls = tell(mill, text);
+        for (int i = 0; calls < MOST_CALLS; i++) {
+            calls += which == 0 ? turnAndOrder(mill, i) : which == 1 ? lookAhead(mill, i) : which == 2 ? tellShort(mill)
+                : tellAll(mill, text);
+        }
+        return made() - before;
+    }
+
+    /** Each of these answers how many calls it made. */
+    private static int tell(WordMill mill, byte[] text) {
         feed(mill, text);
         if (mill.read() != 0) {
             System.out.println("the text has a fault");
             System.exit(1);
         }
-        for (int i = 0; i < 240; i++) {
-            if (which == 0) {
-                mill.turn(i % 7 < 3 ? 0 : 1);
-                mill.orders(8);
-            } else if (which == 1) {
-                mill.made(1 + i % 12, i % 3);
-                mill.left(300 - i);
-                mill.next(i % 9, 0);
-                mill.list(0);
-                mill.apart(i % 6, 1);
-                mill.derived(i % 6, 1, -1);
-                mill.mostUsed(1, 0);
-                mill.swap(i % 7, 0);
-            } else {
-                mill.feed(0x776f7264, 0x20616263, 0x3b202020, 0x20202020, 0x20202020);
-                mill.read();
-            }
+        return text.length / 20 + 1;
+    }
+
+    private static int turnAndOrder(WordMill mill, int i) {
+        mill.turn(i % 7 < 3 ? 0 : 1);
+        mill.orders(8);
+        return 2;
+    }
+
+    private static int lookAhead(WordMill mill, int i) {
+        mill.made(1 + i % 12, i % 3);
+        mill.left(300 - i);
+        mill.next(i % 9, 0);
+        mill.list(0);
+        mill.apart(i % 6, 1);
+        mill.derived(i % 6, 1, -1);
+        mill.mostUsed(1, 0);
+        mill.swap(i % 7, 0);
+        return 8;
+    }
+
+    private static int tellShort(WordMill mill) {
+        mill.feed(0x776f7264, 0x20616263, 0x3b202020, 0x20202020, 0x20202020);
+        mill.read();
+        return 2;
+    }
+
+    private static int tellAll(WordMill mill, byte[] text) {
+        int calls = tell(mill, text);
+        for (int n = 1; n <= 12; n++) {
+            mill.made(n, 0);
         }
-        return made() - before;
+        mill.orders(8);
+        return calls + 13;
     }
 }
