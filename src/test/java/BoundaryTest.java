@@ -34,6 +34,7 @@ public final class BoundaryTest extends Checks {
         deaths();
         deathsOfAlikeOnes();
         undone();
+        everyPartUndone();
         undoneThirty();
         stock();
         made();
@@ -593,6 +594,12 @@ public final class BoundaryTest extends Checks {
         mill.centuries(1);
         dueAll("neither as one GROUND nor as one that DIED", fates(mill), 1, 2, 0, 0, 0, 0, 2);
         due("alike", wordOf(mill, 2), "a");
+        says("terms: who is GROUND is whole no more, and does not DIE");
+        WordMill ground = mill("stone x to none; word a; word a; word xa; word b;");
+        ground.grind(1);
+        ground.centuries(3);
+        dueAll("GROUND as a WORD of a lesser number is", fates(ground), 0, 1, 2, 0);
+        due("nor by centuries to come", ground.future(1, 300, 9), 1);
         says("terms: a WORD of a greater number is none");
         WordMill greater = mill("stone x to none; word a; word xa;");
         greater.centuries(1);
@@ -624,6 +631,63 @@ public final class BoundaryTest extends Checks {
         }
         due("there is none", mill.undo(), false);
         due("as it was", goingOn(mill), ahead[0]);
+    }
+
+    /** Seven stones, ten words and all pieces; of each piece some word is made. */
+    private static final String FULL = "stone t to u; stone u to v; stone v to w; stone w to x; stone x to y; stone y to z; stone z to none;"
+        + "head p 1; head q 2; head r 3; head s 4; root a 1; root b 2; root c 3; root d 4; root e 5; root f 6; root g 7; root h 8;"
+        + "ending i 1; ending j 2; ending k 3; ending l 4; ending m 5; ending n 6;"
+        + "word paij; word qbkl; word rcmn; word sdi; word ej; word fkk; word gl; word hm; word zoo; word tua;"
+        + "land 10 a 1; land 20 b 1 l 1 q 1; land 30 k 1 m 1; land 40 p 1 c 1; land 999 d 1 s 1; brings = tons + dust; seed 4711;";
+    private static final int FULL_THINGS = 30;
+
+    /** The n-th of thirty things: centuries, each stone turned, each two places swapped, words ground, each land sold to. */
+    private static boolean thing(WordMill mill, int n) {
+        if (n == 0 || n == FULL_THINGS - 1) {
+            return mill.centuries(1 + n) == (n == 0 ? 1 : 1 + FULL_THINGS);
+        }
+        if (n <= 9) {
+            return mill.grind(n - 1) >= 0;
+        }
+        if (n <= 14) {
+            return mill.sell(n - 10);
+        }
+        return n <= 21 ? mill.turn(n - 15) : mill.swap(n - 22, (n - 21) % 7);
+    }
+
+    private static WordMill things(int n) {
+        WordMill mill = new WordMill();
+        due("read", read(mill, FULL), 0);
+        for (int i = 0; i < n; i++) {
+            due("thing " + i, thing(mill, i), true);
+        }
+        return mill;
+    }
+
+    private static void everyPartUndone() {
+        says("promises 18, 40, 41: all that goes on is undone, is held, is gone on from");
+        String[] ahead = new String[FULL_THINGS + 1];
+        for (int n = 0; n <= FULL_THINGS; n++) {
+            ahead[n] = asItIs(things(n));
+            due("thing " + n + " does something", n == 0 || !ahead[n].equals(ahead[n - 1]), true);
+        }
+        for (int n = 0; n < FULL_THINGS; n++) {
+            WordMill one = things(n + 1);
+            due("undo", one.undo(), true);
+            due("thing " + n + " undone", asItIs(one), ahead[n]);
+            WordMill all = things(FULL_THINGS);
+            for (int i = FULL_THINGS; i > n; i--) {
+                due("undo", all.undo(), true);
+            }
+            due("all from thing " + n + " on undone", asItIs(all), ahead[n]);
+            WordMill held = things(n);
+            held.hold(n % 3);
+            for (int i = n; i < FULL_THINGS; i++) {
+                thing(held, i);
+            }
+            due("restore", held.restore(n % 3), true);
+            due("held ahead of thing " + n, asItIs(held), ahead[n]);
+        }
     }
 
     private static void undoneThirty() {

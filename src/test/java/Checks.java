@@ -140,9 +140,14 @@ abstract class Checks {
 
     /** All that goes on, and what is told, but not the tape: what a refused call leaves as it is. */
     static String goingOn(WordMill mill) {
+        return mill.count(13) + " can be undone, " + mill.count(14) + " held: " + asItIs(mill);
+    }
+
+    /** What goes on and what is told, without what can be undone and what is held. */
+    static String asItIs(WordMill mill) {
         StringBuilder s = new StringBuilder();
         for (int what = 0; what <= 16; what++) {
-            s.append(what == 12 ? 0 : mill.count(what)).append(' ');
+            s.append(what >= 12 && what <= 14 ? 0 : mill.count(what)).append(' ');
         }
         for (int p = 0; p < mill.count(1); p++) {
             s.append(mill.order(p)).append(mill.isOn(p) == 1 ? "+ " : "- ");

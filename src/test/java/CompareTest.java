@@ -4,11 +4,14 @@ import java.util.Random;
 
 /** Runs of random calls: WordMill must answer as PlainMill does. Arguments: none, or [source] [first seed] [runs]. */
 public final class CompareTest {
+    private static final int NONE = WordMill.NONE;
     private static final int CALLS = 150;
     /** An object is used for at most 512 calls; a text takes at most 100 to be fed, and a few more. */
     private static final int LAST_CALL = 512 - 110;
 
     private final Random random;
+    /** Half of the runs have few letters and many words and pieces, so that more comes of them. */
+    private final boolean lively;
     private final WordMill mill = new WordMill();
     private final PlainMill plain = new PlainMill();
     private final StringBuilder log = new StringBuilder();
@@ -16,6 +19,7 @@ public final class CompareTest {
 
     private CompareTest(long seed) {
         random = new Random(seed);
+        lively = seed % 2 != 0;
     }
 
     public static void main(String[] args) {
@@ -62,7 +66,7 @@ public final class CompareTest {
         StringBuilder s = new StringBuilder();
         int size = least + below(most - least + 1);
         for (int i = 0; i < size; i++) {
-            s.append("abcde".charAt(below(5)));
+            s.append((char) ('a' + below(lively ? 3 : 5)));
         }
         return s.toString();
     }
@@ -127,7 +131,7 @@ public final class CompareTest {
         feed(null, other, stones + "word " + in + ";");
         other.read();
         for (int i = 0; i < n; i++) {
-            if (chance(30)) {
+            if (chance(lively ? 60 : 30)) {
                 other.turn(i);
             }
             if (chance(30)) {
@@ -146,19 +150,22 @@ public final class CompareTest {
         String stones = stones(below(4), n);
         List<String> tells = new ArrayList<>();
         List<String> pieces = new ArrayList<>();
-        int roots = below(9);
-        for (int i = 0; i < roots + below(7) + below(5); i++) {
+        int roots = lively ? 2 + below(7) : below(9);
+        int others = below(7) + below(5);
+        for (int i = 0; i < roots + others; i++) {
             String piece = name(1, chance(20) ? 8 : 3);
             String sort = i < roots ? "root " : pick("ending ", "ending ", "head ");
-            if (tells.stream().noneMatch(t -> t.startsWith(sort + piece + " "))) {
+            int most = i < roots ? 8 : sort.equals("head ") ? 4 : 6;
+            boolean fits = !lively || tells.stream().filter(t -> t.startsWith(sort)).count() < most;
+            if (fits && tells.stream().noneMatch(t -> t.startsWith(sort + piece + " "))) {
                 tells.add(sort + piece + " " + (1 + below(9)) + "; ");
                 pieces.add(piece);
             }
         }
-        int words = below(11);
+        int words = lively ? 4 + below(7) : below(11);
         List<String> told = new ArrayList<>();
         for (int i = 0; i < words; i++) {
-            String before = told.isEmpty() ? "a" : told.get(below(told.size()));
+            String before = told.isEmpty() ? "a" : told.get(chance(50) ? told.size() - 1 : below(told.size()));
             String word = chance(30) ? outOf(stones, n, before)
                 : chance(60) && !pieces.isEmpty() ? joined(pieces) : name(1, chance(40) ? 8 : 3);
             tells.add("word " + word + "; ");
@@ -191,7 +198,10 @@ public final class CompareTest {
     }
 
     private String joined(List<String> pieces) {
-        String s = pieces.get(below(pieces.size())) + (chance(60) ? pieces.get(below(pieces.size())) : "");
+        String s = "";
+        for (int n = chance(40) ? 1 : chance(60) ? 2 : 3; n > 0; n--) {
+            s += pieces.get(below(pieces.size()));
+        }
         return s.substring(0, Math.min(8, s.length()));
     }
 
@@ -244,7 +254,7 @@ public final class CompareTest {
 
     private String readText() {
         String text = chance(5) ? crowded() : text();
-        text = chance(30) ? spoilt(text) : text;
+        text = chance(lively ? 10 : 30) ? spoilt(text) : text;
         text = text.substring(0, Math.min(2000, text.length()));
         mill.back(mill.count(12));
         plain.back(plain.count(12));
@@ -298,7 +308,7 @@ public final class CompareTest {
                 return same("sell(" + land + ")", mill.sell(land), plain.sell(land));
             }
             case 7: {
-                int n = chance(70) ? some(4) : some(101);
+                int n = chance(lively ? 90 : 70) ? some(lively ? 2 : 4) : some(101);
                 return same("centuries(" + n + ")", mill.centuries(n), plain.centuries(n));
             }
             case 8: return same("undo()", mill.undo(), plain.undo());
@@ -312,10 +322,10 @@ public final class CompareTest {
 
     private String askWord() {
         int w = word();
-        int v = word();
+        int v = chance(50) ? word() : w + 1;
         int what = some(10);
         int n = chance(70) ? some(8) : some(301);
-        int i = some(chance(60) ? 1 : 5);
+        int i = chance(30) ? NONE : some(chance(60) ? 1 : 5);
         switch (below(13)) {
             case 0: return same("word(" + w + ", " + what + ")", mill.word(w, what), plain.word(w, what));
             case 1: return same("run(" + w + ", " + what + ")", mill.run(w, what), plain.run(w, what));

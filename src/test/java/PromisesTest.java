@@ -685,6 +685,24 @@ public final class PromisesTest extends Checks {
         due("all eight fit", mill("stone a to b;" + times(8, "pair a b;")).orders(8), 1);
         due("no stones", mill("pair a b;").orders(1), 0);
         due("no stones", mill("pair a a;").orders(1), 1);
+        for (int n = 1; n <= 8; n++) {
+            for (int p = 0; p < n; p++) {
+                ordersThatOnePairTells(n, p);
+            }
+        }
+    }
+
+    /** Of n pairs alone the p-th tells which of two stones is ahead of the other; a third one changes nothing. */
+    private static void ordersThatOnePairTells(int n, int p) {
+        String stones = "stone a to none; stone b to a; stone q to r; ";
+        String[] told = {"pair abx ax; ", "pair abx x; ", "pair ab a; "};
+        int[][] due = {{3, 0, 1, 2, 0}, {3, 1, 0, 2, 1}, {3, 0, 1, 2, 0}};
+        for (int i = 0; i < told.length; i++) {
+            WordMill mill = mill(stones + times(p, "pair x x; ") + told[i] + times(n - 1 - p, "pair x x; "));
+            dueAll(told[i] + "as the " + p + "-th of " + n, new int[] {mill.orders(n), mill.orderAt(n, 0), mill.orderAt(n, 1),
+                mill.orderAt(n, 2), mill.swaps(n)}, due[i]);
+            due("the pairs ahead of it tell nothing", mill.orders(p), 6);
+        }
     }
 
     private static void sets() {
