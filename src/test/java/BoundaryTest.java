@@ -16,6 +16,7 @@ public final class BoundaryTest extends Checks {
         runs();
         stages();
         stonesAtTheEdges();
+        eachClass();
         jams();
         ways();
         allWays();
@@ -789,6 +790,32 @@ public final class BoundaryTest extends Checks {
         WordMill last = mill("head x 1; root ab 1; root a 1; ending b 1;");
         dueAll("by the last ENDING", madeRow(last, 2), 2, 1, 100);
         dueAll("behind a HEAD too", madeRow(last, 3), 2, 2, 110);
+        WordMill behind = mill("head x 1; head y 1; head p 1; head pr 1; root ra 1; root a 1; ending c 1; ending d 1;");
+        // Two by ra and one ENDING, four by a and two, three behind each of x, y, p; pra by pr, too.
+        dueAll("behind the third and the fourth HEAD", madeRow(behind, 3), 15, 1, 3100);
+        WordMill fourth = mill("head xxxxxxxx 1; head yyyyyyyy 1; head zzzzzzzz 1; head p 1; root ab 1; root a 1; ending b 1;");
+        dueAll("abb and pab", madeRow(fourth, 3), 2, 2, 110);
+        dueAll("abbb and, behind the fourth HEAD, pabb", madeRow(fourth, 4), 2, 1, 4110);
+    }
+
+    /** Each of six CLASSES is one that a STONE tells, ahead of its letter or behind it. */
+    private static void eachClass() {
+        says("terms: one of a CLASS: each of six");
+        String[] letters = {"ab", "cd", "ef", "gh", "ij", "kl"};
+        StringBuilder classes = new StringBuilder();
+        for (int c = 0; c < 6; c++) {
+            classes.append("class is").append(letters[c]).append(' ').append(letters[c]).append("; ");
+        }
+        for (int c = 0; c < 6; c++) {
+            for (int l = 0; l < 12; l++) {
+                String letter = String.valueOf((char) ('a' + l));
+                String left = l / 2 == c ? "y" : "z";
+                WordMill after = mill(classes + "stone z to y after is" + letters[c] + "; word " + letter + "z;");
+                due("CLASS " + c + " ahead", runOf(after, 0), letter + left);
+                WordMill before = mill(classes + "stone z to y before is" + letters[c] + "; word z" + letter + ";");
+                due("CLASS " + c + " behind", runOf(before, 0), left + letter);
+            }
+        }
     }
 
     // ---- promises 21 to 24
